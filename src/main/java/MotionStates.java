@@ -5,7 +5,7 @@ public final class MotionStates {
     public static final int NONE = -1, UNKNOWN = -2, OUTSIDE = -3, NOT = -4, FULL = -5, NULL = -11, SIZE = -12, INDEX = -13, STORE = -14, EMPTY = -15;
 
     private static final int LIMBS = 4, MOST_STATES = 6, MOST_WAYS = 12, NUMBERS = 3, TRIGGERS = 3, LAYERS = 2;
-    private static final int ANY_STATE = 9, MOST_VALUE = 99, FULL_WEIGHT = 16, MOST_LASTED = 9999;
+    private static final int ANY_STATE = 9, MOST_VALUE = 99, FULL_WEIGHT = 16, MOST_FRAMES = 16, MOST_LASTED = 9999;
     private static final int FROM = 0, TO = 1, FRAMES = 2, BREAKS = 3, CONDITION = 4, SUBJECT = 5, LIMIT = 6, WAY_PARTS = 7;
     private static final int AFTER = 0, OVER = 1, UNDER = 2, TRIGGER = 3;
     private static final int MOST_LETTERS = 200, MOST_CLAUSES = 24;
@@ -451,7 +451,7 @@ public final class MotionStates {
     }
 
     private float upperWeight() {
-        return (float) told.weight / 16f;
+        return (float) told.weight / (float) FULL_WEIGHT;
     }
 
     private float mixedLimb(int limb) {
@@ -755,14 +755,12 @@ public final class MotionStates {
 
         /** Does the CLAUSES on a figure as they are read: the place of the FAULT, or NONE. */
         int readOnto(Figure draft) {
-            clauses = 0;
             tokenEnd = 0;
             advance();
-            while (clauses < MOST_CLAUSES) {
+            for (clauses = 1; clauses <= MOST_CLAUSES; clauses++) {
                 if (!readClause(draft)) {
                     return tokenStart;
                 }
-                clauses++;
                 if (isAtEnd()) {
                     return NONE;
                 }
@@ -785,7 +783,7 @@ public final class MotionStates {
                 return readState(draft);
             }
             if (isWord("way")) {
-                return readWay(draft);
+                return readWay(draft) && readCondition(draft);
             }
             if (isWord("breaking")) {
                 return readBreaking(draft);
@@ -809,13 +807,14 @@ public final class MotionStates {
             return true;
         }
 
+        /** From, to and FRAMES of the next WAY, which is one of the figure only behind its CONDITION. */
         private boolean readWay(Figure draft) {
             if (draft.ways >= MOST_WAYS) {
                 return false;
             }
             advance();
             int way = draft.ways;
-            if (!readOrigin(draft.states)) {
+            if (!readUpTo(numberHere() == ANY_STATE ? ANY_STATE : draft.states - 1)) {
                 return false;
             }
             draft.putPart(way, FROM, amount);
@@ -828,14 +827,10 @@ public final class MotionStates {
             }
             draft.putPart(way, FRAMES, amount);
             draft.putPart(way, BREAKS, 0);
-            if (!readCondition(draft, way)) {
-                return false;
-            }
-            draft.ways++;
             return true;
         }
 
-        private boolean readCondition(Figure draft, int way) {
+        private boolean readCondition(Figure draft) {
             int condition = conditionHere();
             if (condition == NONE) {
                 return false;
@@ -848,12 +843,18 @@ public final class MotionStates {
                 }
                 subject = amount;
             }
-            if (!readLimit(condition)) {
-                return false;
+            int limit = 0;
+            if (condition != TRIGGER) {
+                boolean isRead = condition == AFTER ? readUpTo(MOST_VALUE) : readSigned();
+                if (!isRead) {
+                    return false;
+                }
+                limit = amount;
             }
-            draft.putPart(way, CONDITION, condition);
-            draft.putPart(way, SUBJECT, subject);
-            draft.putPart(way, LIMIT, amount);
+            draft.putPart(draft.ways, CONDITION, condition);
+            draft.putPart(draft.ways, SUBJECT, subject);
+            draft.putPart(draft.ways, LIMIT, limit);
+            draft.ways++;
             return true;
         }
 
@@ -868,14 +869,6 @@ public final class MotionStates {
                 return UNDER;
             }
             return isWord("trigger") ? TRIGGER : NONE;
-        }
-
-        private boolean readLimit(int condition) {
-            if (condition == TRIGGER) {
-                amount = 0;
-                return true;
-            }
-            return condition == AFTER ? readUpTo(MOST_VALUE) : readSigned();
         }
 
         private boolean readBreaking(Figure draft) {
@@ -901,15 +894,11 @@ public final class MotionStates {
             return true;
         }
 
-        private boolean readOrigin(int states) {
-            int number = numberHere();
-            return number == ANY_STATE ? readUpTo(ANY_STATE) : readUpTo(states - 1);
-        }
-
         private boolean readFrames() {
             int number = numberHere();
-            boolean isHalving = number >= 0 && (number & (number - 1)) == 0;
-            return isHalving && readUpTo(16);
+            // FRAMES are 0 or a power of two, so that DONE by FRAMES has no rounding.
+            boolean isZeroOrPower = number >= 0 && (number & (number - 1)) == 0;
+            return isZeroOrPower && readUpTo(MOST_FRAMES);
         }
 
         private boolean readSigned() {
@@ -937,11 +926,14 @@ public final class MotionStates {
         /** The number that the current TOKEN is, or NONE. */
         private int numberHere() {
             int size = tokenEnd - tokenStart;
-            if (size < 1 || size > 2 || !isDigit(tokenStart)) {
+            if (size < 1 || size > 2) {
                 return NONE;
             }
-            int first = letters[tokenStart] - '0';
-            return size == 1 ? first : first * 10 + letters[tokenStart + 1] - '0';
+            char first = letters[tokenStart];
+            if (first < '0' || first > '9') {
+                return NONE;
+            }
+            return size == 1 ? first - '0' : (first - '0') * 10 + letters[tokenStart + 1] - '0';
         }
 
         private boolean isWord(String word) {
@@ -964,14 +956,6 @@ public final class MotionStates {
             return tokenStart >= length;
         }
 
-        private boolean isDigit(int place) {
-            return letters[place] >= '0' && letters[place] <= '9';
-        }
-
-        private boolean isSmallLetter(int place) {
-            return letters[place] >= 'a' && letters[place] <= 'z';
-        }
-
         private void advance() {
             tokenStart = tokenEnd;
             while (tokenStart < length && letters[tokenStart] == ' ') {
@@ -981,15 +965,16 @@ public final class MotionStates {
             if (isAtEnd()) {
                 return;
             }
+            char first = letters[tokenStart];
+            boolean isNumber = first >= '0' && first <= '9';
+            char lowest = isNumber ? '0' : 'a';
+            char highest = isNumber ? '9' : 'z';
             tokenEnd++;
-            if (isDigit(tokenStart)) {
-                while (tokenEnd < length && isDigit(tokenEnd)) {
-                    tokenEnd++;
-                }
-            } else if (isSmallLetter(tokenStart)) {
-                while (tokenEnd < length && isSmallLetter(tokenEnd)) {
-                    tokenEnd++;
-                }
+            if (first < lowest || first > highest) {
+                return;
+            }
+            while (tokenEnd < length && letters[tokenEnd] >= lowest && letters[tokenEnd] <= highest) {
+                tokenEnd++;
             }
         }
     }

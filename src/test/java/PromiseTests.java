@@ -116,6 +116,15 @@ public final class PromiseTests {
         faultIs("", "  figure  ", NONE);
         faultIs("", "figures", 0);
         faultIs("", "figur", 0);
+        faultIs("", "figurez", 0);
+        faultIs("", "zfigure", 0);
+        faultIs("", "pigure", 0);
+        faultIs("", "xtate 0 0 0 0", 0);
+        faultIs("", "figurea", 0);
+        faultIs("", "figure`", 6);
+        faultIs("", "figure{", 6);
+        faultIs("", "figure/", 6);
+        faultIs("", "figure:", 6);
         faultIs("", "Figure", 0);
         faultIs("", "figureE", 6);
         faultIs("", "figure figure", 7);
@@ -180,6 +189,15 @@ public final class PromiseTests {
         }
         faultIs(two, "way 0 1 016 after 0", 8);
         faultIs(two, "way 0 1 after 0", 8);
+        faultIs(two, "way", 3);
+        faultIs(two, "way;figure", 3);
+        faultIs(two, "way 0", 5);
+        faultIs(two, "way 0;figure", 5);
+        faultIs(two, "way 0 1", 7);
+        faultIs(two, "way 0 1;figure", 7);
+        faultIs(two, "way 0 1 4;figure", 9);
+        faultIs(two, "way 0 1 4 after;figure", 15);
+        faultIs(two, "way 0 1 4 trigger;figure", 17);
         faultIs(two, "way 0 1 4 afte 0", 10);
         faultIs(two, "way 0 1 4 state 0", 10);
         faultIs(two, "way 0 1 4", 9);
@@ -219,6 +237,9 @@ public final class PromiseTests {
         faultIs("", "mask 16 0", 5);
         faultIs("", "mask 0 17", 7);
         faultIs("", "mask 0", 6);
+        faultIs("", "mask", 4);
+        faultIs("", "mask;figure", 4);
+        faultIs("", "mask 0;figure", 6);
         faultIs("", "mask -1 0", 5);
         faultIs("", "mask 1 -1", 7);
         faultIs("", "mask 1 1 1", 9);
@@ -245,6 +266,14 @@ public final class PromiseTests {
         faultIs("", "figure;".repeat(23) + "figure", NONE);
         faultIs("", "figure;".repeat(24) + "figure", 167);
         faultIs("", "figure;".repeat(24), 167);
+        faultIs("", "state 0 0 0" + " ".repeat(189), 200);
+        faultIs("", " ".repeat(187) + "state 0 0 0 0", NONE);
+        faultIs("", " ".repeat(189) + "state 0 0 0", 200);
+        MotionStates erased = new MotionStates();
+        Check.write(erased, "state 0 0 0 0");
+        erased.erase();
+        Check.write(erased, "state 0 0 0 ");
+        due("letters of an erased text are not read", erased.fault(), 12);
     }
 
     // Promise 5
@@ -281,6 +310,17 @@ public final class PromiseTests {
         Check.write(x, "state 1 1 1 1;way 0 0 1 after 1;breaking;figure;state 2 2 2 2;way 0 0 1 after 1");
         x.figure();
         due("a way told anew is not breaking", x.way(0, 3), 0);
+        MotionStates y = Check.told("state 1 1 1 1;state 80 80 80 80;way 0 1 0 after 0;way 1 0 0 after 0");
+        Check.write(y, "figure;state 4 4 4 4;state 8 8 8 8");
+        y.figure();
+        due("ways that are no more are not taken", y.step(1), 0);
+        due("nor lead anywhere", y.reach(0), 1);
+        due("nor from anywhere", y.dead(), 3);
+        due("no such way", y.way(0, 0), UNKNOWN);
+        Check.write(y, "figure;state 4 4 4 4");
+        y.figure();
+        due("a state that is no more", y.value(1, 0), UNKNOWN);
+        due("has no share", y.bits(0, 1), UNKNOWN);
     }
 
     private static void figureBeginsAnew() {
@@ -342,6 +382,13 @@ public final class PromiseTests {
         due("no states yet", y.count(0), 0);
         due("figure", y.figure(), 1);
         due("figure again, no text", y.figure(), NOT);
+        Check.write(y, "figure;mask 1 1;way");
+        due("a faulty text", y.fault(), 19);
+        y.erase();
+        Check.write(y, "state 2 2 2 2");
+        due("figure behind an erased text", y.figure(), 1);
+        due("the erased text did nothing", y.count(0), 2);
+        due("its mask neither", y.count(6), 0);
     }
 
     // Promise 6
@@ -585,6 +632,16 @@ public final class PromiseTests {
         due("trigger is pulled again", x.count(2), 1);
         due("undo pull", x.undo(), 0);
         due("not pulled", x.count(2), 0);
+        x.pull(0);
+        x.step(2);
+        x.pull(1);
+        x.step(1);
+        due("broken", x.layer(0, 0), 2);
+        x.undo();
+        due("not broken", x.layer(0, 0), 1);
+        x.undo();
+        x.step(1);
+        due("the blend goes on from its own begin", x.share(0, 0), 16384);
     }
 
     // Promises 12, 13
@@ -799,6 +856,24 @@ public final class PromiseTests {
         z.pull(0);
         z.step(1);
         due("-1 times 0 and 0 times 1", z.exact(0), 0L);
+        zeroBesideSmall(1, 2);
+        zeroBesideSmall(2, 1);
+    }
+
+    /** One LAYER's LIMB is just below zero, the other's is zero: half and half that is the common zero. */
+    private static void zeroBesideSmall(int lowerTrigger, int upperTrigger) {
+        MotionStates x = Check.told("state0 0 0 0;".repeat(4) + "state-4 0 0 0;way0 4 0trigger1;way0 3 0trigger2;"
+            + "way4 1 2trigger0;breaking;way1 2 2after0;breaking;way2 1 2after0;breaking;mask1 8");
+        x.pull(lowerTrigger);
+        x.step(1);
+        x.pull(upperTrigger);
+        x.step(1);
+        x.pull(0);
+        x.step(75);
+        x.step(74);
+        due("the least share", x.bits(lowerTrigger == 1 ? 0 : 1, 4), 1);
+        due("the common zero", x.exact(0), 0L);
+        due("the common zero, cut", x.limb(0), 1000000);
     }
 
     // Promise 19
@@ -827,6 +902,14 @@ public final class PromiseTests {
             most = Math.max(most, want);
         }
         Check.holds("some sums are not one", least < 100 || most > 100);
+        MotionStates six = Check.told("state4 8 12 16;".repeat(6) + "way0 5 4trigger0;way5 0 4after99");
+        six.pull(0);
+        six.step(1);
+        due("whole of six states", six.whole(0), 100);
+        due("limb of six states", six.limb(3), 1004096);
+        six.step(3);
+        due("whole of the last", six.whole(0), 100);
+        due("share of the last", six.share(0, 5), 65536);
     }
 
     // Promises 20, 21
@@ -1068,6 +1151,11 @@ public final class PromiseTests {
         due("index ahead of store", x.hand(0, 1, 1, 2), INDEX);
         due("index ahead of empty", x.hand(0, 2, 1, 2), INDEX);
         due("to itself", x.hand(0, 1, 0, 2), 1);
+        x.lay(1, 0, 1, 0);
+        due("dot 0", x.hand(1, 0, 0, 2), 1);
+        due("there", x.look(0, 2), 0);
+        x.lift(1, 0);
+        due("to itself again", x.hand(0, 1, 0, 2), 1);
         due("there", x.look(0, 2), 1008);
         due("onto itself", x.hand(0, 2, 0, 2), 1);
         due("over another", x.hand(0, 0, 0, 2), 1);
