@@ -962,7 +962,7 @@ public final class MotionStates {
                 tokenStart++;
             }
             tokenEnd = tokenStart;
-            if (isAtEnd()) {
+            if (tokenStart >= length) {
                 return;
             }
             char first = letters[tokenStart];

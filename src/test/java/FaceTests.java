@@ -1,19 +1,13 @@
-import java.io.IOException;
 import java.lang.reflect.Field;
 import java.lang.reflect.Method;
 import java.lang.reflect.Modifier;
-import java.nio.charset.StandardCharsets;
-import java.nio.file.Files;
-import java.nio.file.Path;
 import java.util.Arrays;
 import java.util.HashSet;
 import java.util.List;
 import java.util.Set;
 import java.util.TreeSet;
-import java.util.regex.Matcher;
-import java.util.regex.Pattern;
 
-/** The face is the document's, no more and no less, and the source keeps to what LANGUAGE.md leaves. */
+/** The face is the document's, no more and no less; LanguageTests looks at what stands behind it. */
 public final class FaceTests {
     private static final List<String> METHODS = List.of("write(int)", "erase()", "fault()", "figure()", "value(int, int)",
         "way(int, int)", "set(int, int)", "pull(int)", "step(int)", "undo()", "keep(int)", "back(int)", "layer(int, int)",
@@ -22,17 +16,12 @@ public final class FaceTests {
         "likeness(int, int)", "hand(int, int, int, int)", "drop(int)", "count(int)");
     private static final String[] CONSTANTS = {"NONE", "UNKNOWN", "OUTSIDE", "NOT", "FULL", "NULL", "SIZE", "INDEX", "STORE", "EMPTY"};
     private static final int[] WORTH = {-1, -2, -3, -4, -5, -11, -12, -13, -14, -15};
-    /** What no line of the program needs, and LANGUAGE.md rules out or the program must not lean on. */
-    private static final String[] RULED_OUT = {"\\bcatch\\b", "\\btry\\b", "\\bfinally\\b", "->", "::", "\\bFloat\\.", "\\bDouble\\.",
-        "\\bassert\\b", "\\bsynchronized\\b", "\\bpackage\\b", "\\bString\\.format", "\\bSystem\\.(?!arraycopy)", "\\bvar\\b",
-        "Exact\\(", "\\bstatic \\{", "\\bMath\\.(?!min|max|abs)", "\\bimport (?!java\\.util\\.Arrays;)", "\\bstrictfp\\b", "\\bnull\\b"};
 
-    public static void main(String[] args) throws IOException, IllegalAccessException {
+    public static void main(String[] args) throws IllegalAccessException {
         theClass();
         theMethods();
         theConstants();
         theClassesInside();
-        theSource();
         Check.finish();
     }
 
@@ -93,22 +82,5 @@ public final class FaceTests {
                 && !Modifier.isPublic(modifiers) && !Modifier.isProtected(modifiers));
             Check.holds(one + " has few fields", one.getDeclaredFields().length <= 20);
         }
-    }
-
-    private static void theSource() throws IOException {
-        String source = Files.readString(Path.of("src/main/java/MotionStates.java"), StandardCharsets.US_ASCII);
-        String code = source.replaceAll("(?s)/\\*.*?\\*/", "").replaceAll("//[^\n]*", "");
-        for (String word : RULED_OUT) {
-            Matcher matcher = Pattern.compile(word).matcher(code);
-            Check.holds("the source has " + word, !matcher.find());
-        }
-        Matcher method = Pattern.compile("(?m)^( {4}| {8})(?:public |private |static )*[\\w\\[\\]]+ ?\\w*\\([^)]*\\) \\{\n(.*?)^\\1\\}",
-            Pattern.DOTALL | Pattern.MULTILINE).matcher(source);
-        int methods = 0;
-        while (method.find()) {
-            methods++;
-            Check.holds("a method is long: " + method.group().lines().findFirst().orElse(""), method.group().split("\n").length <= 60);
-        }
-        Check.holds("methods were found: " + methods, methods >= METHODS.size());
     }
 }
